@@ -645,7 +645,9 @@ public final class RedTent {
         int fogCount;
 
         Weather() {
-            setHours(windBy, 0, HOURS, CALM);
+            for (int h = 0; h < HOURS; h++) {
+                windBy[h] = CALM;
+            }
         }
 
         void tellWind(int from, int to, int by) {
@@ -1051,8 +1053,6 @@ public final class RedTent {
 
     /** The tape, the texts read from it, and the one in force. */
     private static final class Orders {
-        static final String TEXT_0 = "take hurt * 2 - strength ; go far * 6 < fuel ;";
-
         final int[] tape = new int[MAX_TAPE];
         int tapeSize;
         final Text[] texts = new Text[MAX_TEXTS];
@@ -1063,26 +1063,15 @@ public final class RedTent {
         final int[] stack = new int[MAX_STACK];
 
         Orders() {
-            texts[0] = firstText();
-            for (int k = 1; k < MAX_TEXTS; k++) {
+            for (int k = 0; k < MAX_TEXTS; k++) {
                 texts[k] = new Text();
             }
+            texts[0].beFirst();
             textCount = 1;
         }
 
-        private static Text firstText() {
-            int[] bytes = new int[MAX_TAPE];
-            int size = Math.min(TEXT_0.length(), MAX_TAPE);
-            for (int k = 0; k < size; k++) {
-                bytes[k] = TEXT_0.charAt(k);
-            }
-            Text made = new Text();
-            new Reader().readInto(made, bytes, size);
-            return made;
-        }
-
         int addBytes(int n, long bytes) {
-            for (int k = 0; k < n; k++) {
+            for (int k = 0; k < n && tapeSize < MAX_TAPE; k++) {
                 tape[tapeSize] = (int) (bytes >>> 8 * k & 255L);
                 tapeSize++;
             }
@@ -1090,13 +1079,16 @@ public final class RedTent {
         }
 
         int readTape() {
-            Text made = textCount < MAX_TEXTS ? texts[textCount] : null;
-            if (made == null) {
+            if (textCount >= MAX_TEXTS) {
                 return FULL;
             }
-            int fault = reader.readInto(made, tape, tapeSize);
+            int fault = reader.readAll(tape, tapeSize);
             tapeSize = 0;
-            return fault >= 0 ? -100 - fault : textCount++;
+            if (fault >= 0) {
+                return -100 - fault;
+            }
+            texts[textCount].become(reader.made);
+            return textCount++;
         }
 
         int ask(int part, int strength, int hurt, int skill, int hour, int fuel, int far) {
@@ -1106,17 +1098,20 @@ public final class RedTent {
             names[3] = hour;
             names[4] = fuel;
             names[5] = far;
-            Text order = inForce >= 0 && inForce < textCount ? texts[inForce] : null;
-            return order == null ? 0 : order.valueOf(part, names, stack);
+            return texts[inForce].valueOf(part, names, stack);
         }
     }
 
     /** A text that was read: steps of a stack machine, first those of take, then those of go. */
     private static final class Text {
-        /** A step of 0 or more puts that number; -1 to -6 put a name; these work on what was put. */
+        /** A step of 0 or more puts that number, one of a name puts its value, others work on what was put. */
+        static final int STRENGTH = -1, HURT = -2, FUEL = -5, FAR = -6;
         static final int OR = -11, AND = -12, NOT = -13, LESS = -14, SAME = -15;
         static final int PLUS = -16, MINUS = -17, TIMES = -18, NEGATE = -19;
-        static final int FIRST_NAME = -1, LAST_NAME = -NAMES;
+
+        /** Text 0: take hurt * 2 - strength ; go far * 6 < fuel ; */
+        static final int[] FIRST_TAKE = {HURT, 2, TIMES, STRENGTH, MINUS};
+        static final int[] FIRST_GO = {FAR, 6, TIMES, FUEL, LESS};
 
         final int[] steps = new int[MAX_TAPE];
         int size;
@@ -1125,6 +1120,23 @@ public final class RedTent {
         void clear() {
             size = 0;
             goFrom = 0;
+        }
+
+        void beFirst() {
+            clear();
+            for (int k = 0; k < FIRST_TAKE.length; k++) {
+                addStep(FIRST_TAKE[k]);
+            }
+            goFrom = size;
+            for (int k = 0; k < FIRST_GO.length; k++) {
+                addStep(FIRST_GO[k]);
+            }
+        }
+
+        void become(Text other) {
+            System.arraycopy(other.steps, 0, steps, 0, MAX_TAPE);
+            size = other.size;
+            goFrom = other.goFrom;
         }
 
         void addStep(int step) {
@@ -1146,8 +1158,8 @@ public final class RedTent {
 
         /** Does one step; answers how many numbers stand on the stack behind it. */
         private static int afterStep(int step, int[] names, int[] stack, int top) {
-            if (step >= LAST_NAME) {
-                return put(step >= 0 ? step : names[FIRST_NAME - step], stack, top);
+            if (step >= FAR) {
+                return put(step >= 0 ? step : names[-1 - step], stack, top);
             }
             if (step == NOT || step == NEGATE) {
                 if (top > 0) {
@@ -1187,35 +1199,35 @@ public final class RedTent {
         }
     }
 
-    /** Reads a text token by token; the first token that can't stand where it is, is the fault. */
+    /** Cuts a tape into tokens and reads them; the first that can't stand where it is, is the fault. */
     private static final class Reader {
         /** Tokens: 1 to 11 are the words as spelt by nthWord, signs are their own bytes. */
-        static final int WRONG = -1, END = 0, LAST_NAME = NAMES, TAKE = 7, GO = 8, OR = 9, AND = 10, NOT = 11;
-        static final int NUMBER = 12, LAST_WORD = 11;
-        static final int LONGEST_NUMBER = 4;
+        static final int WRONG = -1, END = 0, TAKE = 7, GO = 8, OR = 9, AND = 10, NOT = 11, NUMBER = 12;
+        static final int LAST_WORD = NOT, LONGEST_NUMBER = 4;
 
         int[] bytes = new int[0];
         int size;
-        int place;
-        int token;
-        int start;
-        int number;
-        int fault;
-        Text into = new Text();
 
-        /** Reads a whole text; answers the place of its fault, or -1. */
-        int readInto(Text made, int[] tape, int tapeSize) {
+        final int[] tokens = new int[MAX_TAPE + 1];
+        final int[] starts = new int[MAX_TAPE + 1];
+        final int[] numbers = new int[MAX_TAPE + 1];
+
+        final Text made = new Text();
+        int at;
+        int fault;
+
+        /** Reads a whole text into made; answers the place of its fault, or -1. */
+        int readAll(int[] tape, int tapeSize) {
             bytes = tape;
             size = Math.min(tapeSize, tape.length);
-            into = made;
-            into.clear();
-            place = 0;
+            cutTokens();
+            made.clear();
+            at = 0;
             fault = -1;
-            advance();
             need(TAKE);
             readChoice(0);
             need(';');
-            into.goFrom = into.size;
+            made.goFrom = made.size;
             need(GO);
             readChoice(0);
             need(';');
@@ -1224,12 +1236,18 @@ public final class RedTent {
         }
 
         private boolean sees(int wanted) {
-            return fault < 0 && token == wanted;
+            return fault < 0 && tokens[at] == wanted;
+        }
+
+        private void advance() {
+            if (at < MAX_TAPE && tokens[at] != END) {
+                at++;
+            }
         }
 
         private void fail() {
             if (fault < 0) {
-                fault = start;
+                fault = starts[at];
             }
         }
 
@@ -1246,7 +1264,7 @@ public final class RedTent {
             for (int k = 0; k < MAX_TAPE && sees(OR); k++) {
                 advance();
                 readBoth(open);
-                into.addStep(Text.OR);
+                made.addStep(Text.OR);
             }
         }
 
@@ -1255,37 +1273,39 @@ public final class RedTent {
             for (int k = 0; k < MAX_TAPE && sees(AND); k++) {
                 advance();
                 readNot(open);
-                into.addStep(Text.AND);
+                made.addStep(Text.AND);
             }
         }
 
         private void readNot(int open) {
-            if (sees(NOT)) {
-                if (open >= MAX_OPEN) {
-                    fail();
-                    return;
-                }
+            if (sees(NOT) && open >= MAX_OPEN) {
+                fail();
+            } else if (sees(NOT)) {
                 advance();
                 readNot(open + 1);
-                into.addStep(Text.NOT);
-                return;
+                made.addStep(Text.NOT);
+            } else {
+                readCompared(open);
             }
+        }
+
+        private void readCompared(int open) {
             readSum(open);
             if (sees('<') || sees('=')) {
-                int step = token == '<' ? Text.LESS : Text.SAME;
+                int step = sees('<') ? Text.LESS : Text.SAME;
                 advance();
                 readSum(open);
-                into.addStep(step);
+                made.addStep(step);
             }
         }
 
         private void readSum(int open) {
             readTerm(open);
             for (int k = 0; k < MAX_TAPE && (sees('+') || sees('-')); k++) {
-                int step = token == '+' ? Text.PLUS : Text.MINUS;
+                int step = sees('+') ? Text.PLUS : Text.MINUS;
                 advance();
                 readTerm(open);
-                into.addStep(step);
+                made.addStep(step);
             }
         }
 
@@ -1294,24 +1314,22 @@ public final class RedTent {
             for (int k = 0; k < MAX_TAPE && sees('*'); k++) {
                 advance();
                 readOne(open);
-                into.addStep(Text.TIMES);
+                made.addStep(Text.TIMES);
             }
         }
 
         private void readOne(int open) {
             if (sees(NUMBER)) {
-                into.addStep(number);
+                made.addStep(numbers[at]);
                 advance();
-            } else if (fault < 0 && token > END && token <= LAST_NAME) {
-                into.addStep(-token);
+            } else if (fault < 0 && tokens[at] > END && tokens[at] <= NAMES) {
+                made.addStep(-tokens[at]);
                 advance();
-            } else if (open >= MAX_OPEN) {
-                fail();
-            } else if (sees('-')) {
+            } else if (sees('-') && open < MAX_OPEN) {
                 advance();
                 readOne(open + 1);
-                into.addStep(Text.NEGATE);
-            } else if (sees('(')) {
+                made.addStep(Text.NEGATE);
+            } else if (sees('(') && open < MAX_OPEN) {
                 advance();
                 readChoice(open + 1);
                 need(')');
@@ -1320,8 +1338,69 @@ public final class RedTent {
             }
         }
 
-        private int byteAt(int at) {
-            return at >= 0 && at < size ? bytes[at] : -1;
+        private void cutTokens() {
+            int count = 0;
+            int place = 0;
+            while (place < size && count < MAX_TAPE) {
+                if (isBlank(bytes[place])) {
+                    place++;
+                } else {
+                    starts[count] = place;
+                    place = cutOne(count, place);
+                    count++;
+                }
+            }
+            tokens[count] = END;
+            starts[count] = size;
+        }
+
+        /** Cuts a token from a place on; answers the place behind it. */
+        private int cutOne(int token, int place) {
+            int end = place;
+            int number = 0;
+            while (end < size && isLetter(bytes[end])) {
+                end++;
+            }
+            if (end > place) {
+                tokens[token] = wordOf(place, end);
+                return end;
+            }
+            while (end < size && isDigit(bytes[end])) {
+                number = number * 10 + bytes[end] - '0';
+                end++;
+            }
+            if (end > place) {
+                tokens[token] = end - place <= LONGEST_NUMBER ? NUMBER : WRONG;
+                numbers[token] = number;
+                return end;
+            }
+            tokens[token] = isSign(bytes[place]) ? bytes[place] : WRONG;
+            return place + 1;
+        }
+
+        private int wordOf(int place, int end) {
+            for (int k = 1; k <= LAST_WORD; k++) {
+                if (isSpelt(nthWord(k), place, end)) {
+                    return k;
+                }
+            }
+            return WRONG;
+        }
+
+        private boolean isSpelt(String word, int place, int end) {
+            if (word.length() != end - place) {
+                return false;
+            }
+            for (int k = 0; k < word.length(); k++) {
+                if (word.charAt(k) != bytes[place + k]) {
+                    return false;
+                }
+            }
+            return true;
+        }
+
+        private static boolean isBlank(int sign) {
+            return sign == 32 || sign == 10;
         }
 
         private static boolean isLetter(int sign) {
@@ -1332,59 +1411,8 @@ public final class RedTent {
             return sign >= '0' && sign <= '9';
         }
 
-        private void advance() {
-            while (place < size && (byteAt(place) == 32 || byteAt(place) == 10)) {
-                place++;
-            }
-            start = place;
-            int sign = byteAt(place);
-            if (place >= size) {
-                token = END;
-            } else if (isLetter(sign)) {
-                readWord();
-            } else if (isDigit(sign)) {
-                readNumber();
-            } else {
-                place++;
-                token = isSign(sign) ? sign : WRONG;
-            }
-        }
-
         private static boolean isSign(int sign) {
             return sign >= '(' && sign <= '+' || sign == '-' || sign >= ';' && sign <= '=';
-        }
-
-        private void readNumber() {
-            number = 0;
-            while (place < size && isDigit(byteAt(place))) {
-                number = number * 10 + byteAt(place) - '0';
-                place++;
-            }
-            token = place - start <= LONGEST_NUMBER ? NUMBER : WRONG;
-        }
-
-        private void readWord() {
-            while (place < size && isLetter(byteAt(place))) {
-                place++;
-            }
-            token = WRONG;
-            for (int k = 1; k <= LAST_WORD; k++) {
-                if (isSpelt(nthWord(k))) {
-                    token = k;
-                }
-            }
-        }
-
-        private boolean isSpelt(String word) {
-            if (word.length() != place - start) {
-                return false;
-            }
-            for (int k = 0; k < word.length(); k++) {
-                if (word.charAt(k) != byteAt(start + k)) {
-                    return false;
-                }
-            }
-            return true;
         }
 
         private static String nthWord(int n) {

@@ -82,6 +82,9 @@ public final class ThereAndBackTest {
         x.fog(109, 111, 0);
         check.due("waits 9", x.last(0, 0, 2), 98);
         x.fog(0, 240, 16);
+        x.fog(0, 4, 0);
+        check.due("from hour 0 alone", x.last(0, 0, 2), 0);
+        x.fog(0, 4, 9);
         check.due("never", x.last(0, 0, 2), NONE);
         check.due("but nowhere", x.last(0, 2, 2), 239);
     }
