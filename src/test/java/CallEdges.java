@@ -26,6 +26,8 @@ final class CallEdges {
             "wave 0 0 9 10 -> BAD", "wave 0 0 0 9 -> 99", "wave 0 0 5 4 -> BAD", "wave 0 0 5 5 -> 9", "wave 0 0 -1 -1 -> BAD", "wave 0 1 2 3 -> 0", "wave 0 0 0 0 -> 55",
             "wave 0 1 0 0 -> 23", "wave 3 1 0 1 -> 0", "wave 2 1 0 1 -> 0", "wave 1 1 0 1 -> 0");
         e.run("body 0 0 0 0 0", "hearer 0", "hearer 1", "call 0 3 0", "canHear 0 0 -> 1");
+        e.run("wave 0 0 0 1", "wave 0 1 0 2", "wave 1 0 0 3", "wave 1 1 0 4", "wave 2 0 0 5", "wave 2 1 0 6", "wave 3 0 0 7", "wave 3 1 0 8", "wave 0 0 9 9 -> 1", "wave 0 1 9 9 -> 2",
+            "wave 1 0 9 9 -> 3", "wave 1 1 9 9 -> 4", "wave 2 0 9 9 -> 5", "wave 2 1 9 9 -> 6", "wave 3 0 9 9 -> 7", "wave 3 1 9 9 -> 8");
         e.run("body 0 0 0 0 0", "hearer 0", "hearer 1", "hearer 2", "hearer 3", "hearer 7", "hearer 63", "call 0 0 0", "wave 0 1 1 2", "canHear 0 0 -> 6",
             "wave 0 1 2 7", "canHear 0 0 -> 60", "wave 0 1 8 9", "canHear 0 0 -> 0", "wave 0 1 7 7", "canHear 0 0 -> 48", "wave 0 1 0 9", "canHear 0 0 -> 63",
             "wave 0 1 0 0", "canHear 0 0 -> 1", "wave 0 0 0 9", "canHear 0 0 -> 1");
@@ -33,6 +35,9 @@ final class CallEdges {
             "body 0 0 0 0 0", "20 x call 0 0 0 -> 0..", "call 0 0 0 -> FULL", "call 1 0 0 -> BAD", "count 5 -> 20");
         e.run("body 0 0 0 0 0", "hearer 0", "call 0 0 0xF00000000000000E", "part 0 0 1 0xE", "isTrue 0 -> 1", "part 0 0 32768 LMIN", "isTrue 1 -> 0",
             "part 0 0 32768 0xF000000000000000", "isTrue 2 -> 1", "part 0 0 65535 0xF00000000000000E", "isTrue 3 -> 1", "word 0 1 -> 0", "word 0 0 -> 14", "word 0 15 -> -2");
+        e.run("body 0 0 0 0 0", "body 0 63 0 0 0", "hearer 0", "hearer 63", "wave 0 1 0 0", "wave 1 1 1 1", "wave 2 1 7 7", "wave 3 1 0 9", "call 0 0 0", "call 1 0 0", "call 0 1 0",
+            "call 1 1 0", "call 0 2 0", "call 1 2 0", "call 0 3 0", "canHear 0 0 -> 1", "canHear 1 0 -> 2", "canHear 2 0 -> 0", "canHear 3 0 -> 0", "canHear 4 0 -> 2", "canHear 5 0 -> 1",
+            "canHear 6 0 -> 3");
         e.of(0, "CAN HEAR it a HEARER: as KNOWN in an HOUR, if some CELL of the BODY's PATCH then is as far from it as the WAVE is heard.",
             "body 3 27 0 0 0", "hearer 27", "hearer 29", "hearer 30", "pass 1", "call 0 0 0", "wave 0 1 0 0", "canHear 0 1 -> 1", "wave 0 1 1 1", "canHear 0 1 -> 3",
             "wave 0 1 2 2", "canHear 0 1 -> 6", "wave 0 1 3 3", "canHear 0 1 -> 6", "wave 0 1 4 4", "canHear 0 1 -> 4", "wave 0 1 5 9", "canHear 0 1 -> 0",

@@ -32,6 +32,7 @@ final class HostEdges {
         e.run("body 0 0 0 0 0", "body 0 0 0 0 0", "sheet 0 0 4", "cell 0 1 7", "cell 0 3 7", "sheet 0 0 4 -> 1", "fixes 0 0 0 0 2 -> 2", "patch 0 0 0 -> {0}", "cell 0 1 7",
             "sheet 0 0 41 -> BAD", "sheet 0 0 -1 -> -14", "sheet 0 3 4 -> BAD", "fixes 1 0 0 0 1 -> 1", "patch 1 0 0 -> 0", "sheet 0 0 1 -> 1", "sheet 0 0 2 -> 1",
             "fixes 0 0 0 0 1 -> 1", "patch 0 0 0 -> {0}");
+        e.run("body 0 0 0 0 0", "sheet 0 0 40", "cell 0 0 9", "cell 0 39 9", "sheet 0 0 40", "fixes 0 0 0 0 1 -> 1", "fixes 0 0 0 38 1 -> 1", "patch 0 0 0 -> {0}");
         e.run("body 0 0 0 0 0", "sheet 0 2 2", "cell 0 1 9", "sheet 0 -1 0", "sheet 0 2 2", "fixes 0 0 2 0 1 -> 1", "patch 0 0 0 -> {0}");
     }
 

@@ -138,7 +138,7 @@ final class IceEdges {
             "body 0 27 0 0 0", "wind -1 1 2222 -> BAD", "wind 0 0 2222 -> BAD", "wind 0 1 2222 -> 1", "wind 0 240 2222 -> 2", "wind 0 241 2222 -> BAD",
             "wind 239 240 2222 -> 3", "wind 240 240 2222 -> BAD", "wind 240 241 2222 -> BAD", "wind 5 4 2222 -> BAD", "wind 5 5 2222 -> BAD",
             "wind MIN 1 2222 -> BAD", "wind 0 MAX 2222 -> BAD", "wind MAX MIN 2222 -> BAD", "wind MIN MAX 2222 -> BAD", "wind 0 MIN 2222 -> BAD",
-            "wind 0 1 2122 -> BAD", "wind 0 1 1022 -> BAD", "wind 0 1 4322 -> BAD", "wind 0 1 2221 -> BAD", "wind 0 1 2243 -> BAD", "wind 0 1 2210 -> BAD",
+            "wind 0 1 2122 -> BAD", "wind 0 1 1000 -> BAD", "wind 0 1 4000 -> BAD", "wind 0 1 1022 -> BAD", "wind 0 1 4322 -> BAD", "wind 0 1 2221 -> BAD", "wind 0 1 2243 -> BAD", "wind 0 1 2210 -> BAD",
             "wind 0 1 2222 -> 4", "26 x wind 0 1 2222 -> 5..", "wind 0 1 2222 -> FULL", "wind 0 0 2222 -> BAD", "wind 0 1 2221 -> BAD", "wind 0 1 5 -> BAD",
             "count 2 -> 30");
         e.run("body 0 27 0 0 0", "30 x wind 0 1 3322", "wind 0 240 3322 -> FULL", "patch 0 239 0 -> {28}");

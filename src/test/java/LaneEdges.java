@@ -39,6 +39,8 @@ final class LaneEdges {
             + "been seen with a chance of (16 less FOG of that HOUR) sixteenths, if it is there.",
             behind(EACH_KIND, "lane {0}", "6 x flown 2 0 0 -> 1..", "flown 2 0 0 -> FULL", "flown 5 0 0 -> FULL", "flown 5 1 0 -> 1", "5 x flown 2 1 0 -> 2..",
                 "flown 2 1 0 -> FULL", "flown 1 2 0 -> BAD", "flown 2 2 0 -> 1", "flown 2 5 0 -> 1"));
+        e.run("body 0 0 0 0 0", "body 2 0 0 0 0", "wind 0 1 2322", "pass 1", "lane {0}", "14 x lane {5}", "lane {1} -> 15", "flown 1 0 15", "share 0 0 0 -> 1", "share 0 0 1 -> 1",
+            "share 0 1 0 -> 0", "flown 1 0 14", "share 0 0 0 -> 1");
         e.run("body 0 0 0 0 0", "body 2 0 0 0 0", "wind 0 1 2322", "fog 1 2 16", "fog 2 3 8", "fog 3 4 0", "pass 1", "lane {0}", "flown 1 0 0", "share 0 0 0 -> 1", "share 0 0 1 -> 2",
             "pass 1", "flown 1 0 0", "share 0 0 0 -> 1", "share 0 0 1 -> 3", "pass 1", "flown 1 0 0", "share 0 0 0 -> 0", "share 0 1 0 -> 1", "share 0 1 1 -> 1");
     }

@@ -53,6 +53,10 @@ final class TextEdges {
             "feeds '" + full + "' -> 159", "feed 2 0x2020 -> FULL", "feed 1 32 -> 160", "feed 1 32 -> FULL", "feed 8 0 -> FULL", "text -> 1", "count 12 -> 0", "force 1",
             "body 0 0 0 0 0", "man 0 0 0 0", "says 0 0 0 -> 12");
         e.run("feeds '" + full + "' -> 159", "feed 1 59 -> 160", "text -> -259", "count 12 -> 0");
+        for (String sign : new String[] {";", "(", "?", "z", "9", "-"}) {
+            e.run("feeds '" + sign.repeat(160) + "' -> 160", "text -> -100", "reads 'take' -> -104", "reads 'take 1;go 1' -> -111", "reads 'take 1;go 1;' -> 1");
+        }
+        e.run("feeds 'take 1;go " + "9".repeat(150) + "' -> 160", "text -> -110", "feeds 'take 1;go 1" + " ".repeat(148) + "z' -> 160", "text -> -259");
         String sums = "take 1" + "+1".repeat(74) + ";go 1;";
         e.run("feeds '" + sums + "' -> 160", "text -> 1", "force 1", "body 0 0 0 0 0", "man 0 0 0 0", "says 0 0 0 -> 75");
         String terms = "take 1;go 9" + "*9".repeat(74) + ";";
@@ -71,6 +75,12 @@ final class TextEdges {
         fine("take-1;go-2;");
         fine("take not(1)and(not 2)or 3;go 1;");
         fine("take 1<2;go 1=2;");
+        fault("take hurtz;go 1;", 5);
+        fault("takea 1;go 1;", 0);
+        fault("xake 1;go 1;", 0);
+        fault("take 1;lo 1;", 7);
+        fault("take 1 xr 1;go 1;", 7);
+        fault("take curt;go 1;", 5);
         fault("take 10000;go 1;", 5);
         fault("take 00000;go 1;", 5);
         fault("take 1;go 12345678;", 10);
