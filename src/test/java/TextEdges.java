@@ -57,6 +57,7 @@ final class TextEdges {
             e.run("feeds '" + sign.repeat(160) + "' -> 160", "text -> -100", "reads 'take' -> -104", "reads 'take 1;go 1' -> -111", "reads 'take 1;go 1;' -> 1");
         }
         e.run("feeds 'take 1;go " + "9".repeat(150) + "' -> 160", "text -> -110", "feeds 'take 1;go 1" + " ".repeat(148) + "z' -> 160", "text -> -259");
+        e.run("feeds '" + ";".repeat(159) + "9' -> 160", "text -> -100", "feeds '" + ";".repeat(159) + "z' -> 160", "text -> -100");
         String sums = "take 1" + "+1".repeat(74) + ";go 1;";
         e.run("feeds '" + sums + "' -> 160", "text -> 1", "force 1", "body 0 0 0 0 0", "man 0 0 0 0", "says 0 0 0 -> 75");
         String terms = "take 1;go 9" + "*9".repeat(74) + ";";
