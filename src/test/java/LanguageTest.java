@@ -11,7 +11,7 @@ import java.util.List;
 import java.util.regex.Matcher;
 import java.util.regex.Pattern;
 
-/** The face of the class, the rules of LANGUAGE.md that can be seen from outside, and what one object makes. */
+/** The face of the class, and the rules of LANGUAGE.md that can be seen from outside. */
 public final class LanguageTest {
     private static final String[] FACE = {
         "int pass(int)", "int wind(int,int,int)", "int fog(int,int,int)", "int body(int,int,int,int,int)",
